@@ -2,6 +2,8 @@ import java.lang.reflect.Constructor;
 import java.lang.reflect.Field;
 import java.lang.reflect.Method;
 import java.lang.reflect.Modifier;
+import java.util.ArrayList;
+import java.util.List;
 import java.util.Map;
 import java.util.TreeMap;
 
@@ -720,7 +722,8 @@ public final class PromisesTest {
         for (int bad : new int[] {-1, 5, Integer.MIN_VALUE, Integer.MAX_VALUE}) {
             due("outcome(" + bad + ")", x.outcome(bad), INVALID);
         }
-        for (int setting : new int[] {0, 1, 6}) {
+        boolean[] won = new boolean[2];
+        for (int setting = 0; setting < 10; setting++) {
             x = new TurningShop();
             x.set(0, setting);
             int winner = x.outcome(0);
@@ -738,7 +741,9 @@ public final class PromisesTest {
             due("curses, setting " + setting, curses, x.kindOf(5, 1));
             due("points, setting " + setting, points, Math.max(x.points(0), x.points(1)));
             due("winner, setting " + setting, winner, x.points(1) > x.points(0) ? 1 : 0);
+            won[winner] = true;
         }
+        due("player 0 wins with some setting, player 1 with another one", won[0] && won[1] ? 1 : 0, 1);
         due("setting 6: 60 turns", ended(6), 60);
         due("setting 0: 28 turns", ended(0), 28);
         x = gameOverByManors();
@@ -846,6 +851,44 @@ public final class PromisesTest {
         }
         due("crowns", x.many(0, 4, 2) > 0 ? 1 : 0, 1);
         poorPlayer();
+        richPlayer();
+    }
+
+    /** Player 0 buys forges, then crowns, and scraps the fields and pennies: the mean goes above 2. */
+    private static void richPlayer() {
+        TurningShop x = new TurningShop();
+        endWithRow(x, 8);
+        x.end();
+        int cards = 10;
+        int coins = 7;
+        int forges = 0;
+        List<Integer> hand = new ArrayList<>();
+        for (int round = 0; round < 32 && coins < 2 * cards + 1; round++) {
+            hand.clear();
+            read(x, hand);
+            while (hand.contains(8)) {
+                hand.remove(Integer.valueOf(x.play(hand.indexOf(8))));
+                int worst = hand.contains(3) ? 3 : 0;
+                if (hand.contains(worst)) {
+                    hand.remove(Integer.valueOf(x.scrap(hand.indexOf(worst))));
+                    coins -= worst == 0 ? 1 : 0;
+                    cards--;
+                }
+            }
+            for (int kind = 0; kind < 3; kind++) {
+                playAll(x, hand, kind);
+            }
+            int kind = x.turn(1) >= 6 ? 2 : x.turn(1) >= 4 && forges < 2 ? 8 : 1;
+            if (x.buy(kind) >= 0) {
+                cards++;
+                coins += kind == 8 ? 0 : kind + 1;
+                forges += kind == 8 ? 1 : 0;
+            }
+            due(coins + " / " + cards, x.wealth(0), Float.floatToIntBits((float) coins / (float) cards));
+            x.end();
+            x.end();
+        }
+        due("above 2 with " + coins + " / " + cards, coins > 2 * cards ? 1 : 0, 1);
     }
 
     /** Nothing but pennies is bought, so the mean nears 1; with curses it falls far below. */
@@ -1012,7 +1055,58 @@ public final class PromisesTest {
         noFault(x, "p0;x0;e;");
         fault(x, "p0;x0;x0;", 6, 2, NOT_POSSIBLE);
         fault(x, "p0;x3;x4;", 6, 2, INVALID);
+        placesOfTwoDigits();
         due("fault changes nothing", x.turn(3) * 10 + x.turn(4), 10);
+    }
+
+    /** Scouts draw a hand of more than ten cards; few calls are spent on it. */
+    private static void placesOfTwoDigits() {
+        TurningShop x = new TurningShop();
+        endWithRow(x, 8);
+        x.end();
+        List<Integer> hand = new ArrayList<>();
+        for (int round = 0; round < 17; round++) {
+            hand.clear();
+            read(x, hand);
+            playAll(x, hand, 9);
+            if (hand.lastIndexOf(0) >= 10) {
+                break;
+            }
+            while (hand.contains(8) && hand.contains(3)) {
+                hand.remove(Integer.valueOf(x.play(hand.indexOf(8))));
+                hand.remove(Integer.valueOf(x.scrap(hand.indexOf(3))));
+            }
+            playAll(x, hand, 0);
+            if (x.buy(9) < 0) {
+                x.buy(8);
+            }
+            x.end();
+            x.end();
+        }
+        int size = hand.size();
+        int penny = hand.lastIndexOf(0);
+        due("a large hand with a penny far behind", penny >= 10 ? 1 : 0, 1);
+        fault(x, "p" + penny + ";p" + (size - 1) + ";", 4, 2, INVALID);
+        fault(x, "p99;", 0, 2, INVALID);
+        noFault(x, "p" + penny + ";");
+        due("perform()", x.perform(), 1);
+        due("the penny is gone from the hand", x.many(0, HAND, 10), size - 1);
+        due("it gives a coin", x.turn(1), 1);
+    }
+
+    private static void read(TurningShop x, List<Integer> hand) {
+        for (int kind = x.card(0, HAND, hand.size()); kind >= 0; kind = x.card(0, HAND, hand.size())) {
+            hand.add(kind);
+        }
+    }
+
+    private static void playAll(TurningShop x, List<Integer> hand, int kind) {
+        while (hand.contains(kind)) {
+            hand.remove(Integer.valueOf(x.play(hand.indexOf(kind))));
+            if (kind == 9) {
+                read(x, hand);
+            }
+        }
     }
 
     private static void promise23Perform() {

@@ -478,6 +478,7 @@ public final class WalkTest {
         }
     }
 
+    static final int ALL_WALKS = 4000;
     static long seed;
     static int wrong = 0;
     static final TreeMap<String, Integer> seen = new TreeMap<>();
@@ -746,9 +747,8 @@ public final class WalkTest {
         }
     }
 
-    public static void main(String[] args) {
-        int walks = args.length > 0 ? Integer.parseInt(args[0]) : 4000;
-        for (int i = 0; i < walks; i++) walk(i);
+    /** So that no change of the walks leaves a case untried. */
+    static void mustHaveMetAll() {
         for (int k = 0; k < 10; k++) mustHaveSeen("bought " + k, "advised " + k);
         for (int k : new int[] {0, 1, 2, 6, 7, 8, 9}) mustHaveSeen("played " + k);
         for (int r = 0; r <= 5; r++) mustHaveSeen("why " + r);
@@ -763,6 +763,12 @@ public final class WalkTest {
             "outcome over 0", "outcome over 1", "outcome wins 0", "outcome wins 1", "outcome wins 2", "outcome wins 3",
             "fault 1 of 1", "fault 1 of 2", "fault 2 of 0", "fault 2 of 1", "fault 2 of 2", "fault 2 of 3",
             "fault 2 of -1000001", "fault 2 of -1000002");
+    }
+
+    public static void main(String[] args) {
+        int walks = args.length > 0 ? Integer.parseInt(args[0]) : ALL_WALKS;
+        for (int i = 0; i < walks; i++) walk(i);
+        if (walks >= ALL_WALKS) mustHaveMetAll();
         if (args.length > 1) System.out.println(seen);
         System.out.println(wrong == 0 ? walks + " walks agree with the model" : wrong + " answers or walks are wrong");
         if (wrong != 0) System.exit(1);
