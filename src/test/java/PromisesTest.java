@@ -8,90 +8,8 @@ import java.util.Map;
 import java.util.TreeMap;
 
 /** Each promise of the document: ordinary inputs, the edges it names, wrong inputs. */
-public final class PromisesTest {
-    private static final int INVALID = -1000001;
-    private static final int NOT_POSSIBLE = -1000002;
-    private static final int LIMIT = -1000003;
-    private static final int NOT_FOUND = -1000004;
-    private static final int DECK = 0;
-    private static final int HAND = 1;
-    private static final int PLAYED = 2;
-    private static final int DISCARDS = 3;
+public final class PromisesTest extends Checks {
     private static final int[] WRONG = {-1, Integer.MIN_VALUE, Integer.MAX_VALUE};
-
-    private static int wrong = 0;
-    private static int checks = 0;
-
-    private static void due(String what, long got, long want) {
-        checks++;
-        if (got != want) {
-            wrong++;
-            System.out.println(what + " answered " + got + ", due is " + want);
-        }
-    }
-
-    private static void cards(String what, TurningShop x, int player, int where, int... kinds) {
-        due(what + ": how many of player " + player + " at " + where, x.many(player, where, 10), kinds.length);
-        for (int i = 0; i < kinds.length; i++) {
-            due(what + ": card(" + player + ", " + where + ", " + i + ")", x.card(player, where, i), kinds[i]);
-        }
-        due(what + ": the card behind the last one", x.card(player, where, kinds.length), NOT_FOUND);
-    }
-
-    private static void write(TurningShop x, String text) {
-        x.clearText();
-        for (int i = 0; i < text.length(); i++) {
-            due("type of " + text, x.type(text.charAt(i)), i + 1);
-        }
-    }
-
-    private static void fault(String text, int position, int reason, int cause) {
-        fault(new TurningShop(), text, position, reason, cause);
-    }
-
-    private static void fault(TurningShop x, String text, int position, int reason, int cause) {
-        write(x, text);
-        int states = x.count(6);
-        due("fault(0) of " + text, x.fault(0), position);
-        due("fault(1) of " + text, x.fault(1), reason);
-        due("fault(2) of " + text, x.fault(2), cause);
-        due("perform() of " + text, x.perform(), NOT_POSSIBLE);
-        due("states behind " + text, x.count(6), states);
-    }
-
-    private static void noFault(TurningShop x, String text) {
-        write(x, text);
-        for (int what = 0; what < 3; what++) {
-            due("fault(" + what + ") of " + text, x.fault(what), NOT_FOUND);
-        }
-    }
-
-    /** Plays all cards of the hand that are played freely. */
-    private static void payUp(TurningShop x) {
-        int player = x.turn(0);
-        for (int place = 0; x.card(player, HAND, place) >= 0;) {
-            if (x.card(player, HAND, place) > 2 || x.play(place) < 0) {
-                place++;
-            }
-        }
-    }
-
-    private static int placeOf(TurningShop x, int kind) {
-        int player = x.turn(0);
-        for (int place = 0; x.card(player, HAND, place) >= 0; place++) {
-            if (x.card(player, HAND, place) == kind) {
-                return place;
-            }
-        }
-        return -1;
-    }
-
-    /** Ends the turn so that the row begins with a kind then. */
-    private static void endWithRow(TurningShop x, int first) {
-        x.set(0, (first - x.turn(6) + 10) % 10);
-        x.end();
-        x.set(0, 0);
-    }
 
     /** Buys only a kind of 6 to 9 and shillings until a player on turn has so many of the kind in the hand. */
     private static TurningShop withInHand(int players, int kind, int howMany) {
@@ -112,7 +30,7 @@ public final class PromisesTest {
         return x;
     }
 
-    /** Player 1's turn, with a forge, a field and three pennies in the hand, the row from 2 on. */
+    /** Player 1's turn, with a forge, a field and three pennies in the hand, the row from 5 on. */
     private static TurningShop withForge() {
         TurningShop x = new TurningShop();
         x.set(0, 3);
@@ -424,15 +342,6 @@ public final class PromisesTest {
         due("row", row.turn(6), 7);
         row.end();
         due("row", row.turn(6), 4);
-    }
-
-    private static TurningShop gameOverByManors() {
-        TurningShop x = new TurningShop();
-        x.set(0, 0);
-        x.alike(20);
-        due("turns up to the end", x.alike(20), 8);
-        due("over", x.count(2), 1);
-        return x;
     }
 
     /** Curses, pennies and fields are bought up by four players; the third pile ends the game. */
@@ -1167,9 +1076,6 @@ public final class PromisesTest {
         promise21ClearText();
         promise22Fault();
         promise23Perform();
-        System.out.println(wrong == 0 ? checks + " checks hold" : wrong + " of " + checks + " checks fail");
-        if (wrong != 0) {
-            System.exit(1);
-        }
+        finish();
     }
 }
