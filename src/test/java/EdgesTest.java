@@ -430,7 +430,8 @@ public final class EdgesTest extends Quotes {
     private static void advice() {
         section("## Promise 16: advice");
         says("`int advice(int what)`: Finds the kind that the player whose turn it is should buy now (with the coins "
-            + "that there are), so that this player would have most points in the end if all played alike behind that.");
+            + "that there are), so that this player would have most points in the end if all played alike behind "
+            + "that.");
         advised("a field for the coins that there are", "s0 " + FOUR_COINS, 3, 122);
         advised("not for those of the hand", "s0", 0, 121);
         advised("player 1 is on turn", "s6 a1 p0 p0 p1", 0, 129);
