@@ -145,7 +145,7 @@ public final class TurningShop {
         if (!now.hasPlayer(player)) {
             return INVALID_ARGUMENT;
         }
-        return now.sumOf(player, DECK, PLAYED, POINTS) + POINTS_AHEAD;
+        return now.sumOf(player, POINTS) + POINTS_AHEAD;
     }
 
     public int kindOf(int kind, int what) {
@@ -211,7 +211,7 @@ public final class TurningShop {
             case 0:
                 return winner;
             case 1:
-                return later.sumOf(winner, DECK, PLAYED, POINTS) + POINTS_AHEAD;
+                return later.sumOf(winner, POINTS) + POINTS_AHEAD;
             case 2:
                 return turns;
             case 3:
@@ -255,7 +255,7 @@ public final class TurningShop {
         if (cards <= 0) {
             return NOT_FOUND;
         }
-        int coins = now.sumOf(player, DECK, PLAYED, GIVES_COINS);
+        int coins = now.sumOf(player, GIVES_COINS);
         return bitsOf((float) coins / (float) cards);
     }
 
@@ -377,7 +377,7 @@ public final class TurningShop {
             later.buyCard(kind);
         }
         later.goOnAlike(FORESEEN_TURNS);
-        return later.sumOf(now.player, DECK, PLAYED, POINTS);
+        return later.sumOf(now.player, POINTS);
     }
 
     // ---- orders of the text
@@ -498,7 +498,8 @@ public final class TurningShop {
     /** Everything of a state that the history keeps. */
     private static final class Game {
         // The kinds of all players' cards, one part behind another; starts
-        // tells where each part begins, its last element where all end.
+        // tells where each part begins, its last element where all end. No
+        // card is ever made: so all of them, the piles' too, bound the places.
         final int[] cards;
         final int[] starts;
         final int[] piles;
@@ -637,11 +638,9 @@ public final class TurningShop {
             }
             scraps--;
             scrapped[kind]++;
-            int at = starts[player * PARTS + HAND] + place;
-            System.arraycopy(cards, at + 1, cards, at, starts[ALL_PARTS] - at - 1);
-            for (int i = player * PARTS + PLAYED; i <= ALL_PARTS; i++) {
-                starts[i]--;
-            }
+            // What lies behind the end of all parts belongs to nobody.
+            moveToEnd(player * PARTS + HAND, place, ALL_PARTS - 1);
+            starts[ALL_PARTS]--;
             return kind;
         }
 
@@ -703,7 +702,8 @@ public final class TurningShop {
             int from = starts[player * PARTS + HAND];
             int behind = starts[player * PARTS + PLAYED];
             for (int i = from; i < behind; i++) {
-                if (cards[i] >= lowestKind && cards[i] <= highestKind) {
+                int kind = kindAt(i);
+                if (kind >= lowestKind && kind <= highestKind) {
                     return i - from;
                 }
             }
@@ -741,7 +741,7 @@ public final class TurningShop {
         private void moveToEnd(int part, int place, int laterPart) {
             int at = starts[part] + place;
             int last = starts[laterPart + 1] - 1;
-            if (at < starts[part] || at > last || last >= ALL_CARDS) {
+            if (at < 0 || at < starts[part] || at > last || last >= ALL_CARDS) {
                 return;
             }
             int kind = cards[at];
@@ -755,10 +755,11 @@ public final class TurningShop {
         /** Puts a card at the end of the discards, as long as there are any in its pile. */
         private void takeFromPile(int who, int kind) {
             int behind = starts[who * PARTS + HAND];
-            if (piles[kind] <= 0 || starts[ALL_PARTS] >= ALL_CARDS) {
+            int end = starts[ALL_PARTS];
+            if (piles[kind] <= 0 || behind < 0 || behind > end || end >= ALL_CARDS) {
                 return;
             }
-            System.arraycopy(cards, behind, cards, behind + 1, starts[ALL_PARTS] - behind);
+            System.arraycopy(cards, behind, cards, behind + 1, end - behind);
             cards[behind] = kind;
             for (int i = who * PARTS + HAND; i <= ALL_PARTS; i++) {
                 starts[i]++;
@@ -780,7 +781,12 @@ public final class TurningShop {
         int cardOf(int who, int part, int place) {
             int from = starts[who * PARTS + part];
             int length = starts[who * PARTS + part + 1] - from;
-            return place < 0 || place >= length ? -1 : cards[from + place];
+            return place < 0 || place >= length ? -1 : kindAt(from + place);
+        }
+
+        /** The kind of a card by its place among all players' cards, or -1 outside of them. */
+        private int kindAt(int index) {
+            return index < 0 || index >= ALL_CARDS ? -1 : cards[index];
         }
 
         /** Counts the cards of a kind in some parts; of KINDS those of all kinds. */
@@ -792,19 +798,18 @@ public final class TurningShop {
             }
             int found = 0;
             for (int i = from; i < behind; i++) {
-                if (cards[i] == kind) {
+                if (kindAt(i) == kind) {
                     found++;
                 }
             }
             return found;
         }
 
-        /** Adds up what the cards in some parts are worth, each by its kind. */
-        int sumOf(int who, int firstPart, int lastPart, int[] worth) {
-            int behind = starts[who * PARTS + lastPart + 1];
+        /** Adds up what all cards of a player are worth, each by its kind. */
+        int sumOf(int who, int[] worth) {
             int sum = 0;
-            for (int i = starts[who * PARTS + firstPart]; i < behind; i++) {
-                sum += worth[cards[i]];
+            for (int kind = 0; kind < worth.length; kind++) {
+                sum += worth[kind] * howMany(who, DECK, PLAYED, kind);
             }
             return sum;
         }
@@ -812,7 +817,7 @@ public final class TurningShop {
         int leader() {
             int best = 0;
             for (int i = 1; i < players; i++) {
-                if (sumOf(i, DECK, PLAYED, POINTS) > sumOf(best, DECK, PLAYED, POINTS)) {
+                if (sumOf(i, POINTS) > sumOf(best, POINTS)) {
                     best = i;
                 }
             }
